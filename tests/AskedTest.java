@@ -55,6 +55,13 @@ public final class AskedTest {
         isTold(x, 1);
         asked(x, 0, 16, 11, 10, 21, 20);
         asked(x, 1, 4, 21, 20);
+        x = after(13, 3, 4);
+        Due.is("next to 0", x.now(0), 1);
+        isTold(x, 1);
+        asked(x, 0, 8, 11, 10, 21, 20);
+        x = after(-13, 3, 4);
+        Due.is("next to 0 the other way", x.now(0), -1);
+        isTold(x, 1);
         x = after(-15, 3, 2);
         isTold(x, 1);
         asked(x, 0, 14, 11, 10, 21, 20);
@@ -67,6 +74,12 @@ public final class AskedTest {
         isTold(x, 2);
         asked(x, 0, -5, 12, 10, 20);
         asked(x, 1, 5, 20);
+        x = after(-15, 3, 5);
+        Due.is("at 0 the other way", x.now(0), 0);
+        isTold(x, 2);
+        x = after(-13, 3, 5);
+        Due.is("behind 0", x.now(0), 2);
+        isTold(x, 2);
         x = after(14, 4, 6);
         Due.is("at TWIST", x.now(0), -10);
         isTold(x, 2);

@@ -42,7 +42,13 @@ public final class BoxesTest {
     private static void wholeTexts() {
         reads(DISC + THREAD + HAND, 1, 0);
         reads(DISC + DISC + DISC + DISC + THREAD + HAND, 4, 0);
-        HummingDisc x = Due.of(DISC + DISC + THREAD + THREAD + THREAD + HAND + RULE + RULE + HAND + HAND + HAND + RULE);
+        String full = DISC + DISC + DISC + DISC + THREAD + THREAD + THREAD + THREAD + HAND + HAND + HAND + HAND;
+        HummingDisc x = Due.of(full);
+        Due.is("the last of each", x.begin(3, 3, 3, 1), 1);
+        Due.is("no DISC behind it", x.begin(4, 3, 3, 1), Due.BAD);
+        Due.is("no THREAD behind it", x.begin(3, 4, 3, 1), Due.BAD);
+        Due.is("no HAND behind it", x.begin(3, 3, 4, 1), Due.BAD);
+        x = Due.of(DISC + DISC + THREAD + THREAD + THREAD + HAND + RULE + RULE + HAND + HAND + HAND + RULE);
         Due.is("DISCS", x.count(1), 2);
         Due.is("THREADS", x.count(2), 3);
         Due.is("HANDS", x.count(3), 4);
@@ -69,6 +75,9 @@ public final class BoxesTest {
         reads("Disc 1 0 1;", -1000100, 1);
         reads("discs 1 0 1;", -1000100, 1);
         reads("dis 1 0 1;", -1000100, 1);
+        reads("discz 1 0 1;", -1000100, 1);
+        reads("misc 1 0 1;", -1000100, 1);
+        reads("disk 1 0 1;", -1000100, 1);
         reads(DISC + HAND, -1000111, 1);
         reads(DISC + THREAD + DISC, -1000126, 1);
         reads(DISC + THREAD + HAND + THREAD, -1000131, 1);

@@ -43,6 +43,7 @@ public final class ForetoldTest {
         Due.is("the least THREAD of several", x.best(10, 2, 300), 8);
         Due.is("the least of DISC and THREAD", x.best(10, 0, 300), 0);
         Due.is("each from its MOST at most", x.best(20, 2, 300), 8);
+        Due.is("from t0, if that is less: nothing moves", x.best(1, 2, 300), 0);
         Due.is("best(0, 1, 1)", x.best(0, 1, 1), Due.BAD);
         Due.is("best(801, 1, 1)", x.best(801, 1, 1), Due.BAD);
         Due.is("best(1, -1, 1)", x.best(1, -1, 1), Due.BAD);
@@ -96,6 +97,12 @@ public final class ForetoldTest {
         x = Due.of("disc 1 0 1; disc 999 0 1; thread 99 400 800 1; thread 1 1 800 1; hand;");
         Due.is("159390 by itself, and nothing wraps", x.parts(0, 0, 800, 99, 999999), 1);
         Due.is("no pace by 990 by 999", x.parts(1, 1, 600, 99, 1), Due.NONE);
+        // SLOPES: 0 or 1 up to 400, which do not move it, and 3 beyond: from 401 a pace of 1, from 402 one of 1, then 2.
+        x = Due.of("disc 21 0 1; thread 1 400 800 999; hand;");
+        Due.is("500 by the 500th TICK", x.parts(0, 0, 401, 1, 50), 500);
+        Due.is("501 by none", x.parts(0, 0, 401, 1, 51), Due.NONE);
+        Due.is("1993 by the 499th", x.parts(0, 0, 402, 1, 199), 499);
+        Due.is("1997 by the 500th, 2001 by none", x.parts(0, 0, 402, 1, 200), Due.NONE);
     }
 
     private static void lamp() {

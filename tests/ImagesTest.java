@@ -34,6 +34,7 @@ public final class ImagesTest {
         x.image(0);
         x.go(7);
         Due.is("another BOX", Due.read(x, OTHER), 2);
+        Due.is("and RUN", x.begin(1, 0, 2, 9), 1);
         Due.is("restore(0)", x.restore(0), 1);
         Due.are("as it was kept", Due.now(x), -2, -6, 3, 0, 1, 2, 6, 18, 1);
         Due.is("its DISCS", x.count(1), 1);

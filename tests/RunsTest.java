@@ -117,6 +117,10 @@ public final class RunsTest {
         x.pulls(0, 0, 1);
         // 140 times 140 by 1000 is 19, times 99 by 100 is 18.
         Due.are("the air cuts twice", Due.now(x), -20, 0, 1, 0, 19, 14, 122, 0, 1);
+        x.begin(1, 0, 1, 20);
+        x.pulls(0, 1, 1);
+        // 990 times 990 by 1000 is 980, times 99 by 100 is 970.
+        Due.are("of a great pace little is left", Due.now(x), 0, -20, 1, 0, 0, 99, 20, 20, 1);
         x.begin(1, 2, 1, 800);
         x.pulls(0, 1, 1);
         Due.are("the air takes all, and nothing wraps", Due.now(x), 800, 0, 1, 0, 80240, 99, 0, 0, 0);

@@ -82,6 +82,11 @@ public final class SoundsTest {
         tunes(0, 0, 10, new int[] {32767, 32767, 32767}, 98031, 999);
         // SNAPPED: the pace of that TICK is heard, none behind it.
         tunes(1, 1, 10, new int[] {200, 300}, 300, 20);
+        // By 10 from 770 it is through 0 in the TICKS 39 and 98, and at MOST in 59 and 118: the third force has two left.
+        HummingDisc x = Due.of("disc 100 0 1; thread 1 1 770 999; hand;");
+        Due.row(x, 0, 0, 39, 39, 6);
+        Due.is("tune() of 120 TICKS", x.tune(0, 0, 770, 0, 0, 3), 0);
+        Due.is("forces()", x.forces(), 113);
         // From 1 nothing moves.
         tunes(0, 0, 1, new int[] {5, 6}, 11, 0);
     }

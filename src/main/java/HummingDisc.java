@@ -145,8 +145,7 @@ public final class HummingDisc {
     // ---- foretold
 
     public int greatest(int disc, int thread, int t0, int f, int n, int what) {
-        if (!asksWell(disc, thread, t0, f, n) || what < 0 || what > 1) return BAD;
-        foretold.about(discAt(disc), cordAt(thread), t0, f, n);
+        if (what < 0 || what > 1 || !foretells(disc, thread, t0, f, n)) return BAD;
         int fastest = foretold.pulledPace();
         return what == 0 ? fastest : foretold.snaps() ? 1 : 0;
     }
@@ -159,27 +158,20 @@ public final class HummingDisc {
     }
 
     public int from(int disc, int thread, int t0, int f, int n) {
-        if (!asksWell(disc, thread, t0, f, n)) return BAD;
-        foretold.about(discAt(disc), cordAt(thread), t0, f, n);
-        return foretold.bestFrom();
+        return foretells(disc, thread, t0, f, n) ? foretold.bestFrom() : BAD;
     }
 
     public int late(int disc, int thread, int t0, int f, int n) {
-        if (!asksWell(disc, thread, t0, f, n)) return BAD;
-        foretold.about(discAt(disc), cordAt(thread), t0, f, n);
-        return foretold.latestGrowing();
+        return foretells(disc, thread, t0, f, n) ? foretold.latestGrowing() : BAD;
     }
 
     public int parts(int disc, int thread, int t0, int f, int clear) {
-        if (!asksWell(disc, thread, t0, f, 1) || clear < 1 || clear > 999999) return BAD;
-        foretold.about(discAt(disc), cordAt(thread), t0, f, Foretold.PARTING_TICKS);
+        if (clear < 1 || clear > 999999 || !foretells(disc, thread, t0, f, 1)) return BAD;
         return foretold.partingTicks(clear);
     }
 
     public int lamp(int disc, int thread, int t0, int f, int n) {
-        if (!asksWell(disc, thread, t0, f, n)) return BAD;
-        foretold.about(discAt(disc), cordAt(thread), t0, f, n);
-        return foretold.greatestLamp();
+        return foretells(disc, thread, t0, f, n) ? foretold.greatestLamp() : BAD;
     }
 
     public int wobble(int disc, int o) {
@@ -200,11 +192,10 @@ public final class HummingDisc {
 
     public int tune(int disc, int thread, int t0, int row, int i, int k) {
         Row tones = rowAt(row);
-        if (!asksWell(disc, thread, t0, 0, 1) || tones == null || k < 1 || k > 3) return BAD;
+        if (tones == null || k < 1 || k > 3 || !foretells(disc, thread, t0, 0, 1)) return BAD;
         int finding = tones.findingAt(i, k);
         if (finding != 0) return found(finding);
         if (!tones.areWithin(i, k, MOST_TONE)) return BAD;
-        foretold.about(discAt(disc), cordAt(thread), t0, 0, Foretold.TUNE_TICKS);
         latestForces = foretold.forcesFor(tones.items, i, k);
         return fine(foretold.leastOff);
     }
@@ -308,9 +299,13 @@ public final class HummingDisc {
         return told == null || i < 0 || i >= told.hands ? null : told.handOf[i];
     }
 
-    private boolean asksWell(int disc, int thread, int t0, int f, int n) {
+    /** Whether these are as told: what is asked of foretold next is about them then. */
+    private boolean foretells(int disc, int thread, int t0, int f, int n) {
+        Disc wheel = discAt(disc);
         Cord cord = cordAt(thread);
-        return discAt(disc) != null && cord != null && t0 >= 1 && t0 <= cord.most && isPull(f, n);
+        if (wheel == null || cord == null || t0 < 1 || t0 > cord.most || !isPull(f, n)) return false;
+        foretold.about(wheel, cord, t0, f, n);
+        return true;
     }
 
     private static boolean isPull(int f, int n) {
@@ -758,8 +753,7 @@ public final class HummingDisc {
 
     /** RUNS of their own from t0 at rest, all by the one Run here. */
     private static final class Foretold {
-        static final int PARTING_TICKS = 500, TUNE_TICKS = 120;
-        private static final int LATEST = 30, BRIGHTEST = 50, TONES = 3;
+        private static final int LATEST = 30, BRIGHTEST = 50, PARTING_TICKS = 500, TUNE_TICKS = 120, TONES = 3;
 
         private final Run run = new Run();
         private final int[] pull = new int[TONES];
@@ -858,7 +852,7 @@ public final class HummingDisc {
         int partingTicks(int clear) {
             long squares = 0;
             start();
-            for (int i = 1; i <= n && !run.snapped; i++) {
+            for (int i = 1; i <= PARTING_TICKS && !run.snapped; i++) {
                 run.tick(run.unwinds() ? f : 0, 0);
                 squares += (long) run.speed * run.speed;
                 if (squares >= 10L * clear) return i;
@@ -903,7 +897,7 @@ public final class HummingDisc {
                 left /= 10;
             }
             start();
-            for (int i = 0; i < n && !run.snapped && run.through < k; i++) {
+            for (int i = 0; i < TUNE_TICKS && !run.snapped && run.through < k; i++) {
                 int j = run.through;
                 boolean unwinds = run.unwinds();
                 run.tick(unwinds ? pull[j] : 0, 0);
