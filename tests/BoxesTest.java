@@ -8,6 +8,7 @@ public final class BoxesTest {
         wholeTexts();
         spaces();
         firstFault();
+        ends();
         numbers();
         room();
         whatStays();
@@ -94,6 +95,26 @@ public final class BoxesTest {
         reads("disc;0 1;", -1000104, 1);
         reads("disc 0 100 1;", -1000105, 2);
         reads("disc 1 0 0 thread", -1000109, 2);
+    }
+
+    /** A TOKEN ends where the tape ends, whatever stood there before. */
+    private static void ends() {
+        String[] before = {"a".repeat(500), "1".repeat(500), " ".repeat(500), ";".repeat(500)};
+        for (String text : before) {
+            HummingDisc x = new HummingDisc();
+            int place = text.charAt(0) == ' ' ? 500 : 0;
+            Due.is("a tape of " + text.charAt(0), Due.read(x, text), -1000100 - place);
+            Due.is("behind it: disc", Due.read(x, "disc"), -1000104);
+            Due.is("behind it: disc 1 0 7", Due.read(x, "disc 1 0 7"), -1000110);
+            Due.is("behind it: disc 1 0 ", Due.read(x, "disc 1 0 "), -1000109);
+            Due.is("behind it: -", Due.read(x, "disc -"), -1000105);
+        }
+        String most = DISC + THREAD + HAND;
+        reads(most + " ".repeat(500 - most.length()), 1, 0);
+        reads(most + " ".repeat(499 - most.length()) + "9", -1000599, 1);
+        reads(most + " ".repeat(499 - most.length()) + "-", -1000599, 1);
+        reads(most + " ".repeat(496 - most.length()) + "hand", -1000600, 1);
+        reads(most + " ".repeat(495 - most.length()) + "hand;", 1, 0);
     }
 
     private static void numbers() {

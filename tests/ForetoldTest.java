@@ -65,6 +65,9 @@ public final class ForetoldTest {
         Due.is("within 1 TICK", x.from(0, 0, 10, 2, 1), 10);
         Due.is("by no F: the greatest of all", x.from(0, 0, 10, 0, 100), 10);
         Due.is("SNAPPED by all", x.from(0, 1, 10, 6, 300), Due.NONE);
+        // Up to 10 the SLOPE is 0: pulled at 15 and 12, it is not moved at 6.
+        x = Due.of("disc 10 0 1; thread 1 10 800 999; hand;");
+        Due.is("of several the greatest", x.from(0, 0, 15, 3, 100), 12);
     }
 
     private static void late() {
