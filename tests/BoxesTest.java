@@ -1,203 +1,513 @@
-/** Promises 6 to 9: feed, box, fault, shorter. */
+/** Terms 1 (TEXTS, FAULTS), promises 6 to 8: feed, box, fault. Each test is for one sentence, or a part of one. */
 public final class BoxesTest {
     private static final String DISC = "disc 1 0 1;", THREAD = "thread 1 1 9 1;", HAND = "hand;";
-    private static final String RULE = "when wound above 1 pull 1;";
+    private static final String RULE = "when wound above 1 pull 1;", ALL = DISC + THREAD + HAND;
 
     public static void main(String[] args) {
-        feed();
-        wholeTexts();
+        tokens();
         spaces();
-        firstFault();
-        ends();
-        numbers();
-        room();
-        whatStays();
-        shorter();
+        text();
+        disc();
+        thread();
+        hand();
+        rule();
+        theNewBox();
+        faults();
+        feed();
+        box();
+        fault();
         Due.end();
     }
 
-    private static void feed() {
+    /** A text that is read: how many DISCS it has. */
+    private static void reads(String text, int discs) {
         HummingDisc x = new HummingDisc();
-        Due.is("feed(0, 0)", x.feed(0, 0), Due.BAD);
-        Due.is("feed(0, 9)", x.feed(0, 9), Due.BAD);
-        Due.is("feed(0, -1)", x.feed(0, -1), Due.BAD);
-        for (int i = 1; i <= 62; i++) Due.is("feed(0, 8)", x.feed(0, 8), 8 * i);
-        Due.is("five more", x.feed(0, 5), Due.FULL);
-        Due.is("none came", x.count(5), 496);
-        Due.is("four more", x.feed(0, 4), 500);
-        Due.is("one more", x.feed(0, 1), Due.FULL);
-        Due.is("a bad n, ahead of FULL", x.feed(0, 9), Due.BAD);
-        x.box();
-        Due.is("behind box()", x.count(5), 0);
-        Due.is("only the lowest", x.feed(-1L << 24 | ' ' << 16 | ';' << 8 | ' ', 3), 3);
-        Due.is("the highest of them first", x.box(), -1000101);
+        Due.is("box() of: " + text, Due.read(x, text), discs);
+        Due.is("fault() of: " + text, x.fault(), 0);
     }
 
-    private static void reads(String text, int want, int fault) {
+    /** A text that has a FAULT: its place, its number. */
+    private static void faulty(String text, int place, int number) {
         HummingDisc x = new HummingDisc();
-        Due.is("box() of: " + text, Due.read(x, text), want);
-        Due.is("fault() of: " + text, x.fault(), fault);
-        Due.is("the tape behind: " + text, x.count(5), 0);
+        Due.is("box() of: " + text, Due.read(x, text), -1000100 - place);
+        Due.is("fault() of: " + text, x.fault(), number);
     }
 
-    private static void wholeTexts() {
-        reads(DISC + THREAD + HAND, 1, 0);
-        reads(DISC + DISC + DISC + DISC + THREAD + HAND, 4, 0);
-        String full = DISC + DISC + DISC + DISC + THREAD + THREAD + THREAD + THREAD + HAND + HAND + HAND + HAND;
-        HummingDisc x = Due.of(full);
-        Due.is("the last of each", x.begin(3, 3, 3, 1), 1);
-        Due.is("no DISC behind it", x.begin(4, 3, 3, 1), Due.BAD);
-        Due.is("no THREAD behind it", x.begin(3, 4, 3, 1), Due.BAD);
-        Due.is("no HAND behind it", x.begin(3, 3, 4, 1), Due.BAD);
-        x = Due.of(DISC + DISC + THREAD + THREAD + THREAD + HAND + RULE + RULE + HAND + HAND + HAND + RULE);
-        Due.is("DISCS", x.count(1), 2);
-        Due.is("THREADS", x.count(2), 3);
-        Due.is("HANDS", x.count(3), 4);
-        Due.is("rules of all", x.count(4), 3);
+    /** A part behind another text that is read: the place in the part. */
+    private static void faultyBehind(String ahead, String part, int place, int number) {
+        faulty(ahead + part, ahead.length() + place, number);
     }
 
-    private static void spaces() {
-        reads("disc1 0 1;thread1 1 9 1;hand;when wound above-1pull 1;", 1, 0);
-        reads("\n disc\n1\n\n0 1 ;\nthread 1 1 9 1 ; hand ; ", 1, 0);
-        reads("disc 1 0 1; thread 1 1 9 1; hand; when tick below 9pull9;when give above 0pull0;", 1, 0);
-        reads("disc\t1 0 1;", -1000104, 1);
-        reads("disc 1 0\r1;", -1000108, 1);
-        reads("discdisc 1 0 1;", -1000100, 1);
-        reads("disc 10-1 1;", -1000107, 2);
-        reads("disc 5-0 1;" + THREAD + HAND, 1, 0);
-        reads("  ", -1000102, 1);
-        reads("", -1000100, 1);
-        reads("disc 1 0 1;\u00e9", -1000111, 1);
-        reads("disc 1 0 1;\u0000", -1000111, 1);
+    // ---- tokens
+
+    private static void tokens() {
+        tapeOf500();
+        names();
+        numbers();
+        fourFiguresAtMost();
+        signs();
     }
 
-    private static void firstFault() {
-        reads(THREAD, -1000100, 1);
-        reads("Disc 1 0 1;", -1000100, 1);
-        reads("discs 1 0 1;", -1000100, 1);
-        reads("dis 1 0 1;", -1000100, 1);
-        reads("discz 1 0 1;", -1000100, 1);
-        reads("misc 1 0 1;", -1000100, 1);
-        reads("disk 1 0 1;", -1000100, 1);
-        reads(DISC + HAND, -1000111, 1);
-        reads(DISC + THREAD + DISC, -1000126, 1);
-        reads(DISC + THREAD + HAND + THREAD, -1000131, 1);
-        reads(DISC + THREAD + HAND + "; ", -1000131, 1);
-        reads(DISC + THREAD + HAND + "7", -1000131, 1);
-        reads(DISC + THREAD + HAND + "when 1", -1000136, 1);
-        reads(DISC + THREAD + HAND + "when below 1", -1000136, 1);
-        reads(DISC + THREAD + HAND + "when pace pull 1", -1000141, 1);
-        reads(DISC + THREAD + HAND + "when give below pull", -1000147, 1);
-        reads(DISC + THREAD + HAND + "when tick below 1 1", -1000149, 1);
-        reads(DISC + THREAD + HAND + "when tick below 1 pull;", -1000153, 1);
-        reads(DISC + THREAD + HAND + "when tick below 1 pull 1 when", -1000156, 1);
-        reads(DISC + THREAD + HAND + "when ", -1000136, 1);
-        reads("disc;0 1;", -1000104, 1);
-        reads("disc 0 100 1;", -1000105, 2);
-        reads("disc 1 0 0 thread", -1000109, 2);
+    private static void tapeOf500() {
+        Due.says("Terms", "TEXTS: THE TAPE has at most 500 bytes;");
+        HummingDisc x = new HummingDisc();
+        Due.is("500 bytes", Due.feed(x, ALL + " ".repeat(500 - ALL.length())), 500);
+        Due.is("one more", x.feed(' ', 1), Due.FULL);
+        Due.is("they are read", x.box(), 1);
+        faulty(ALL + " ".repeat(499 - ALL.length()) + "-", 499, 1);
+        faulty(ALL + " ".repeat(496 - ALL.length()) + "hand", 500, 1);
     }
 
-    /** A TOKEN ends where the tape ends, whatever stood there before. */
-    private static void ends() {
-        String[] before = {"a".repeat(500), "1".repeat(500), " ".repeat(500), ";".repeat(500)};
-        for (String text : before) {
-            HummingDisc x = new HummingDisc();
-            int place = text.charAt(0) == ' ' ? 500 : 0;
-            Due.is("a tape of " + text.charAt(0), Due.read(x, text), -1000100 - place);
-            Due.is("behind it: disc", Due.read(x, "disc"), -1000104);
-            Due.is("behind it: disc 1 0 7", Due.read(x, "disc 1 0 7"), -1000110);
-            Due.is("behind it: disc 1 0 ", Due.read(x, "disc 1 0 "), -1000109);
-            Due.is("behind it: -", Due.read(x, "disc -"), -1000105);
+    private static void names() {
+        Due.says("Terms", "TOKENS: NAMES (letters a to z),");
+        faulty("Disc 1 0 1;", 0, 1);
+        faulty("disC 1 0 1;", 0, 1);
+        for (char next : new char[] {'`', '{', 'A', 'Z', '_', 228, 0}) {
+            faulty("disc" + next + " 1 0 1;", 4, 1);
+            faulty(ALL + next, ALL.length(), 1);
         }
-        String most = DISC + THREAD + HAND;
-        reads(most + " ".repeat(500 - most.length()), 1, 0);
-        reads(most + " ".repeat(499 - most.length()) + "9", -1000599, 1);
-        reads(most + " ".repeat(499 - most.length()) + "-", -1000599, 1);
-        reads(most + " ".repeat(496 - most.length()) + "hand", -1000600, 1);
-        reads(most + " ".repeat(495 - most.length()) + "hand;", 1, 0);
+        faulty("disca 1 0 1;", 0, 1);
+        faulty("discz 1 0 1;", 0, 1);
+        faulty("disc1 0 1;thread1 1 1 1;handz;", 24, 1);
     }
 
     private static void numbers() {
-        reads("disc 0001 0 1;" + THREAD + HAND, 1, 0);
-        reads("disc 00001 0 1;", -1000105, 1);
-        reads("disc -00001 0 1;", -1000105, 1);
-        reads("disc -0001 0 1;", -1000105, 2);
-        reads("disc 99999999999999999999 0 1;", -1000105, 1);
-        reads("disc 1 -0 1;" + THREAD + HAND, 1, 0);
-        reads("disc 1 - 0 1;", -1000107, 1);
-        reads("disc 1 --0 1;", -1000107, 1);
-        reads("disc -1 0 1;", -1000105, 2);
-        reads("disc 999 99 60;" + THREAD + HAND, 1, 0);
-        reads("disc 1000 99 60;", -1000105, 2);
-        reads("disc 999 100 60;", -1000109, 2);
-        reads("disc 999 99 61;", -1000112, 2);
-        reads(DISC + "thread 99 400 800 999;" + HAND, 1, 0);
-        reads(DISC + "thread 1 400 400 1;" + HAND, 1, 0);
-        reads(DISC + "thread 100 400 800 999;", -1000118, 2);
-        reads(DISC + "thread 99 401 800 999;", -1000121, 2);
-        reads(DISC + "thread 99 0 800 999;", -1000121, 2);
-        reads(DISC + "thread 99 400 801 999;", -1000125, 2);
-        reads(DISC + "thread 99 400 399 999;", -1000125, 2);
-        reads(DISC + "thread 99 400 800 0;", -1000129, 2);
-        reads(DISC + "thread 99 400 800 1000;", -1000129, 2);
-        String rule = DISC + THREAD + HAND + "when tick below ";
-        reads(rule + "-999 pull 0;", 1, 0);
-        reads(rule + "-1000 pull 0;", -1000147, 2);
-        reads(rule + "9999 pull 99;", 1, 0);
-        reads(rule + "10000 pull 0;", -1000147, 1);
-        reads(rule + "0 pull -1;", -1000154, 2);
-        reads(rule + "0 pull 100;", -1000154, 2);
+        Due.says("Terms", "NUMBERS (perhaps -, at once figures,");
+        reads(ALL + "when tick above -7 pull 1;", 1);
+        reads("disc 1 -0 1;" + THREAD + HAND, 1);
+        faulty("disc 1 - 0 1;", 7, 1);
+        faulty("disc 1 --0 1;", 7, 1);
+        faulty("disc 1 -; 1;", 7, 1);
+        faulty("disc -", 5, 1);
+        faulty("disc +1 0 1;", 5, 1);
+        faulty("disc /1 0 1;", 5, 1);
+        faulty("disc :1 0 1;", 5, 1);
+        faulty("disc 1.5 0 1;", 6, 1);
+        faulty("disc 0x1 0 1;", 5, 2);
     }
 
-    private static void room() {
-        reads(DISC + DISC + DISC + DISC + DISC, -1000144, 3);
-        reads(DISC + DISC + DISC + DISC + "disc", -1000144, 3);
-        reads(DISC + THREAD + THREAD + THREAD + THREAD + "thread 0", -1000171, 3);
-        reads(DISC + THREAD + HAND + HAND + HAND + HAND + "hand", -1000146, 3);
-        String six = DISC + THREAD + HAND + RULE + RULE + RULE + RULE + RULE + RULE;
-        reads(six + HAND, 1, 0);
-        reads(six + "when", -1000100 - six.length(), 3);
-        reads(six + HAND + RULE + "hand;", 1, 0);
+    private static void fourFiguresAtMost() {
+        Due.says("Terms", "figures, 4 at most),");
+        reads("disc 0009 0000 0001;" + THREAD + HAND, 1);
+        reads(ALL + "when tick above 9999 pull 1;", 1);
+        reads(ALL + "when tick above -0999 pull 1;", 1);
+        faulty("disc 00009 0 1;", 5, 1);
+        faulty("disc 1 -00000 1;", 7, 1);
     }
 
-    private static void whatStays() {
-        HummingDisc x = Due.of(DISC + DISC + THREAD + HAND);
-        x.row(0, 0, 3);
+    private static void signs() {
+        Due.says("Terms", "SIGNS ;");
+        reads("disc 1 0 1 ; thread 1 1 9 1 ; hand ;", 1);
+        for (char other : new char[] {':', '<', ',', '.', '\''}) faulty("disc 1 0 1" + other, 10, 1);
+        faulty("disc 1 0 1;;", 11, 1);
+        faulty("disc; 1 0 1;", 4, 1);
+    }
+
+    private static void spaces() {
+        Due.says("Terms", "bytes 32 and 10");
+        reads("disc 1\n0 1\n;\nthread 1 1\n9 1; hand;", 1);
+        for (int other = 0; other < 256; other++) {
+            if (other == 32 || other == 10 || other == ';' || other == '-') continue;
+            if (other >= '0' && other <= '9' || other >= 'a' && other <= 'z') continue;
+            faulty("disc 1 0 1" + (char) other + ";", 10, 1);
+        }
+
+        Due.says("Terms", "ahead of, between, behind these,");
+        reads("  \n" + ALL, 1);
+        reads("disc 1  0\n\n1 ;\nthread 1 \n1 9 1; hand \n;", 1);
+        reads(ALL + "\n  ", 1);
+        faulty("di sc 1 0 1;", 0, 1);
+        faulty("disc 1 0 1 0;", 11, 1);
+        faulty("disc 1 - 0 1;", 7, 1);
+
+        Due.says("Terms", "as many as wanted");
+        int left = 500 - ALL.length();
+        reads(" ".repeat(left) + ALL, 1);
+        reads(DISC + "\n".repeat(left) + THREAD + HAND, 1);
+        reads(ALL + " ".repeat(left), 1);
+        faulty(" ".repeat(500), 500, 1);
+
+        Due.says("Terms", "(none is needed where one ends without).");
+        reads("disc1 0 1;thread1 1 9 1;hand;when wound above-1pull 1;when tick below 9pull9;", 1);
+        reads("disc 9-0 1;" + THREAD + HAND, 1);
+        faulty("disc 10 1;", 9, 1);
+        faulty("discdisc 1 0 1;", 0, 1);
+    }
+
+    // ---- the text
+
+    private static void text() {
+        Due.says("Terms", "text: disc { disc } thread { thread } hand { hand }.");
+        reads(ALL, 1);
+        reads(DISC + DISC + THREAD + THREAD + THREAD + HAND + HAND, 2);
+        faulty("", 0, 1);
+        faulty(THREAD + HAND, 0, 1);
+        faulty(DISC + HAND, DISC.length(), 1);
+        faulty(DISC, DISC.length(), 1);
+        faulty(DISC + THREAD, (DISC + THREAD).length(), 1);
+        faultyBehind(DISC + THREAD, DISC, 0, 1);
+        faultyBehind(ALL, THREAD, 0, 1);
+        faultyBehind(ALL, DISC, 0, 1);
+        faultyBehind(ALL, "; ", 0, 1);
+        faultyBehind(ALL, "7", 0, 1);
+    }
+
+    private static void disc() {
+        Due.says("Terms", "disc: 'disc' WEIGHT AIR TEETH ';'");
+        HummingDisc x = Due.of("disc 4 99 3; thread 1 1 20 999; hand;");
+        Due.is("the WEIGHT", x.greatest(0, 0, 20, 5, 1, 0), 12);
+        Due.is("the AIR", x.greatest(0, 0, 20, 99, 1, 0), 187);
+        Due.row(x, 0, 1, 3, 8);
+        Due.is("the TEETH", x.sound(0, 0, 0, 2, 1), 2);
+        faulty("1 0 1;", 0, 1);
+        faulty("disc 0 1;", 5, 2);
+        faulty("disc 1 1;", 8, 1);
+        faulty("disc 1 0 1 1;", 11, 1);
+        faulty("disc 1 0 1 thread", 11, 1);
+        faulty("disc 1 0 1", 10, 1);
+
+        Due.says("Terms", "WEIGHT AIR TEETH ';' (1 to 999;");
+        inADisc("", " 0 1", 1, 999);
+        Due.says("Terms", "(1 to 999; 0 to 99;");
+        inADisc("1 ", " 1", 0, 99);
+        Due.says("Terms", "0 to 99; 1 to 60;");
+        inADisc("1 0 ", "", 1, 60);
+
+        Due.says("Terms", "DISCS 0 .. 3, 4 at most).");
+        x = Due.of("disc 1 0 1; disc 2 0 1; disc 3 0 1; disc 4 0 1;" + THREAD + HAND);
+        Due.is("how many", x.count(1), 4);
+        int[] due = {14, 17, 19, 22};
+        for (int disc = 0; disc < 4; disc++) Due.is("WOBBLE of DISC " + disc, x.wobble(disc, 1), due[disc]);
+        Due.is("no DISC 4", x.wobble(4, 1), Due.BAD);
+        faultyBehind(DISC + DISC + DISC + DISC, DISC, 0, 3);
+    }
+
+    private static void inADisc(String ahead, String behind, int least, int most) {
+        inAText("disc " + ahead, behind + ";" + THREAD + HAND, least, most);
+    }
+
+    /** A NUMBER between two parts of a text: the least and the most are read; one less, one more are FAULTS, and so on. */
+    private static void inAText(String ahead, String behind, int least, int most) {
+        reads(ahead + least + behind, 1);
+        reads(ahead + most + behind, 1);
+        int[] wrong = {least - 1, most + 1, -999, 9999};
+        for (int n : wrong) {
+            if (n < least || n > most) faulty(ahead + n + behind, ahead.length(), 2);
+        }
+    }
+
+    private static void thread() {
+        Due.says("Terms", "thread: 'thread' THICK TWIST MOST SNAP ';'");
+        HummingDisc x = Due.of("disc 10 0 1; thread 99 40 60 7; hand;");
+        Due.is("THICK", x.shorter(0, 40, 0), 158);
+        Due.is("TWIST", x.shorter(0, 41, 1), 2 * x.shorter(0, 40, 1) + 1);
+        Due.is("MOST", x.begin(0, 0, 0, 60), 1);
+        Due.is("beyond MOST", x.begin(0, 0, 0, 61), Due.BAD);
+        Due.is("beyond SNAP", x.greatest(0, 0, 60, 99, 9, 1), 1);
+        faultyBehind(DISC, "1 1 1 1;", 0, 1);
+        faultyBehind(DISC, "thread 1 1 1;", 12, 1);
+        faultyBehind(DISC, "thread 1 1 1 1 1;", 15, 1);
+        faultyBehind(DISC, "thread 1 1 1 1 hand", 15, 1);
+
+        Due.says("Terms", "THICK TWIST MOST SNAP ';' (1 to 99;");
+        inAText(DISC + "thread ", " 1 800 1;" + HAND, 1, 99);
+        Due.says("Terms", "(1 to 99; 1 to 400;");
+        inAText(DISC + "thread 1 ", " 800 1;" + HAND, 1, 400);
+        Due.says("Terms", "TWIST to 800;");
+        inAText(DISC + "thread 1 1 ", " 1;" + HAND, 1, 800);
+        inAText(DISC + "thread 1 399 ", " 1;" + HAND, 399, 800);
+        inAText(DISC + "thread 1 400 ", " 1;" + HAND, 400, 800);
+        Due.says("Terms", "TWIST to 800; 1 to 999;");
+        inAText(DISC + "thread 1 1 1 ", ";" + HAND, 1, 999);
+
+        Due.says("Terms", "THREADS 0 .. 3).");
+        x = Due.of(DISC + "thread 1 1 9 1; thread 10 50 60 1; thread 20 50 60 1; thread 40 50 60 1;" + HAND);
+        Due.is("how many", x.count(2), 4);
+        int[] due = {49, 25, 50, 100};
+        for (int thread = 0; thread < 4; thread++) Due.is("SHORT by THREAD " + thread, x.shorter(thread, 50, 0), due[thread]);
+        Due.is("no THREAD 4", x.shorter(4, 50, 0), Due.BAD);
+        faultyBehind(DISC + THREAD + THREAD + THREAD + THREAD, THREAD, 0, 3);
+    }
+
+    private static void hand() {
+        Due.says("Terms", "hand: 'hand' ';' { rule }");
+        Due.is("no rule", Due.of(ALL).count(4), 0);
+        Due.is("one rule", Due.of(ALL + RULE).count(4), 1);
+        Due.is("three rules", Due.of(ALL + RULE + RULE + RULE).count(4), 3);
+        faultyBehind(DISC + THREAD, "hand when", 5, 1);
+        faultyBehind(DISC + THREAD, "hand 1;", 5, 1);
+        faultyBehind(DISC + THREAD, RULE, 0, 1);
+        faultyBehind(DISC + THREAD, "hand", 4, 1);
+
+        Due.says("Terms", "(HANDS 0 .. 3).");
+        HummingDisc x = Due.of("disc 10 0 1; thread 1 1 20 999;" + "hand; when tick above -1 pull 5;"
+            + "hand; when tick above -1 pull 6; hand; when tick above -1 pull 7; hand; when tick above -1 pull 8;");
+        Due.is("how many", x.count(3), 4);
+        for (int hand = 0; hand < 4; hand++) {
+            Due.is("begin by HAND " + hand, x.begin(0, 0, hand, 9), 1);
+            x.go(1);
+            Due.is("F of HAND " + hand, x.now(5), 5 + hand);
+        }
+        Due.is("no HAND 4", x.begin(0, 0, 4, 9), Due.BAD);
+        faultyBehind(ALL + HAND + HAND + HAND, HAND, 0, 3);
+    }
+
+    private static void rule() {
+        Due.says("Terms", "rule: 'when' WHAT ( 'below' | 'above' ) NUMBER 'pull' F ';'");
+        reads(ALL + "when wound above 1 pull 1; when wound below 1 pull 1;", 1);
+        faultyBehind(ALL, "wound above 1 pull 1;", 0, 1);
+        faultyBehind(ALL, "when above 1 pull 1;", 5, 1);
+        faultyBehind(ALL, "when wound 1 pull 1;", 11, 1);
+        faultyBehind(ALL, "when wound pull 1;", 11, 1);
+        faultyBehind(ALL, "when wound above pull 1;", 17, 1);
+        faultyBehind(ALL, "when wound above 1 1;", 19, 1);
+        faultyBehind(ALL, "when wound above 1 pull;", 23, 1);
+        faultyBehind(ALL, "when wound above 1 pull 1 when", 26, 1);
+        faultyBehind(ALL, "when wound above 1 pull 1", 25, 1);
+
+        Due.says("Terms", "(WHAT: 'wound' | 'pace' | 'give' | 'tick';");
+        for (String what : new String[] {"wound", "pace", "give", "tick"}) reads(ALL + "when " + what + " above 1 pull 1;", 1);
+        for (String what : new String[] {"wounds", "woun", "gives", "turn", "when", "hand", "7", ";"}) {
+            faultyBehind(ALL, "when " + what + " above 1 pull 1;", 5, 1);
+        }
+
+        Due.says("Terms", "-999 to 9999;");
+        reads(ALL + "when tick above -999 pull 1;", 1);
+        reads(ALL + "when tick above 9999 pull 1;", 1);
+        faultyBehind(ALL, "when tick above -1000 pull 1;", 16, 2);
+        faultyBehind(ALL, "when tick above -9999 pull 1;", 16, 2);
+        faultyBehind(ALL, "when tick above 10000 pull 1;", 16, 1);
+
+        Due.says("Terms", "F 0 to 99;");
+        inAText(ALL + "when tick above 1 pull ", ";", 0, 99);
+
+        Due.says("Terms", "6 for a HAND at most).");
+        String six = RULE + RULE + RULE + RULE + RULE + RULE;
+        Due.is("six", Due.of(ALL + six).count(4), 6);
+        Due.is("seven of two HANDS", Due.of(ALL + six + HAND + RULE).count(4), 7);
+        faultyBehind(ALL + six, RULE, 0, 3);
+        faultyBehind(ALL + RULE + HAND + six, RULE, 0, 3);
+    }
+
+    private static void theNewBox() {
+        Due.says("Terms", "A BOX that is read stands in place of the one before");
+        HummingDisc x = Due.of(DISC + DISC + THREAD + THREAD + HAND + HAND + RULE);
+        Due.is("another", Due.read(x, "disc 9 0 1; thread 10 50 60 1;" + HAND), 1);
+        int[] due = {0, 1, 1, 1, 0, 0};
+        for (int what = 0; what < 6; what++) Due.is("count(" + what + ")", x.count(what), due[what]);
+        Due.is("its DISC", x.wobble(0, 1), 31);
+        Due.is("no other DISC", x.wobble(1, 1), Due.BAD);
+        Due.is("its THREAD", x.shorter(0, 50, 0), 25);
+        Due.is("no other THREAD", x.shorter(1, 50, 0), Due.BAD);
+
+        Due.says("Terms", "(none at first):");
+        Due.is("count(1)", new HummingDisc().count(1), 0);
+        Due.is("best()", new HummingDisc().best(1, 1, 1), Due.STATE);
+
+        Due.says("Terms", "no RUN;");
+        x = Due.of(ALL);
+        x.begin(0, 0, 0, 5);
+        Due.is("an alike BOX", Due.read(x, ALL), 1);
+        Due.is("go(1)", x.go(1), Due.STATE);
+        Due.is("now(0)", x.now(0), Due.STATE);
+        Due.is("kind()", x.kind(), Due.STATE);
+
+        Due.says("Terms", "IMAGES and ROWS stay.");
+        x = Due.of(DISC + ALL);
+        Due.row(x, 0, 1, 5, 6);
         x.begin(1, 0, 0, 5);
-        x.image(0);
-        Due.is("a FAULT", Due.read(x, DISC), -1000111);
-        Due.is("the BOX stays", x.count(1), 2);
-        Due.is("the RUN stays", x.now(0), 5);
-        Due.is("fault()", x.fault(), 1);
-        Due.is("another FAULT", Due.read(x, "disc 0"), -1000105);
-        Due.is("fault() tells the latest", x.fault(), 2);
-        Due.is("a new BOX", Due.read(x, DISC + THREAD + HAND), 1);
-        Due.is("fault() stays", x.fault(), 2);
-        Due.is("no RUN", x.now(0), Due.STATE);
-        Due.is("ROWS stay", x.count(0), 1);
-        Due.is("IMAGES stay", x.restore(0), 1);
-        Due.is("the BOX of the IMAGE", x.count(1), 2);
+        x.image(1);
+        Due.is("another BOX", Due.read(x, ALL), 1);
+        Due.is("ROWS", x.count(0), 1);
+        Due.is("an ITEM", Due.item(x, 0, 1, 1), 6);
+        Due.is("restore(1)", x.restore(1), 1);
+        Due.is("its DISCS", x.count(1), 2);
         Due.is("its RUN", x.now(0), 5);
     }
 
-    private static void shorter() {
-        HummingDisc x = Due.of(DISC + "thread 30 50 60 400; thread 99 400 800 999; thread 1 1 1 1;" + HAND);
-        int[][] due = {
-            {0, 0, 0, 0}, {0, 1, 0, 0}, {0, 6, 1, 1}, {0, 40, 48, 3}, {0, 49, 72, 3}, {0, 50, 75, 3},
-            {0, 51, 82, 7}, {0, 60, 145, 7}, {0, 800, 5325, 7},
-            {1, 400, 15840, 80}, {1, 401, 16001, 161}, {1, 800, 80240, 161},
-            {2, 1, 0, 0}, {2, 2, 1, 1}, {2, 800, 799, 1},
-        };
-        for (int[] d : due) {
-            Due.is("SHORT of " + d[1] + " by " + d[0], x.shorter(d[0], d[1], 0), d[2]);
-            Due.is("SLOPE of " + d[1] + " by " + d[0], x.shorter(d[0], d[1], 1), d[3]);
+    // ---- faults
+
+    private static void faults() {
+        Due.says("Terms", "FAULTS, the first TOKEN that has one");
+        faulty("disc 0 100 61 thread", 5, 2);
+        faulty("disc 1 100 0;", 7, 2);
+        faulty("disc 1 x 0;", 7, 1);
+        faulty(DISC + DISC + DISC + DISC + "disc 0", 4 * DISC.length(), 3);
+        faulty("disc 1 0 0; disc", 9, 2);
+        faulty("thread 0 A", 0, 1);
+
+        Due.says("Terms", "(its first byte),");
+        faulty("   disc 1000 0 1;", 8, 2);
+        faulty("disc 1\n\n\n-5 1;", 9, 2);
+        faulty("disc 1 0 1  threads", 12, 1);
+
+        Due.says("Terms", "of one TOKEN the least:");
+        faulty(DISC + DISC + DISC + DISC + THREAD + "disc", 4 * DISC.length() + THREAD.length(), 1);
+        faulty("disc 1 0 1 999;", 11, 1);
+        faulty("disc 99999 0 1;", 5, 1);
+        faulty("disc 1 0 -99;", 9, 2);
+        faulty("-5 disc", 0, 1);
+        faulty(ALL + HAND + HAND + HAND + "when hand", (ALL + HAND + HAND + HAND).length() + 5, 1);
+
+        Due.says("Terms", "1 it cannot stand there,");
+        faulty(HAND, 0, 1);
+        faulty("disc disc", 5, 1);
+        faulty("disc 1;", 6, 1);
+        faulty("disc 1 0 1 0", 11, 1);
+
+        Due.says("Terms", "or is none");
+        faulty("?", 0, 1);
+        faulty("disc 1 0 1;\u00e9", 11, 1);
+        faulty("disc 1 0 1;\0", 11, 1);
+        faulty("disc 1 -- 1;", 7, 1);
+
+        Due.says("Terms", "(a NUMBER of five figures or more, at its first byte;");
+        faulty("disc 10000 0 1;", 5, 1);
+        faulty("disc 1 00000 1;", 7, 1);
+        faulty("disc 1  -10000 1;", 8, 1);
+        faulty("disc 99999999999999999999 0 1;", 5, 1);
+        faulty("disc 4294967297 0 1;", 5, 1);
+        faulty("disc 18446744073709551617 0 1;", 5, 1);
+        faulty("disc " + "1".repeat(495), 5, 1);
+
+        Due.says("Terms", "the end: how many bytes there are);");
+        faulty("", 0, 1);
+        faulty("  \n", 3, 1);
+        faulty("disc", 4, 1);
+        faulty("disc 1 0 ", 9, 1);
+        faulty("disc 1 0 1;   ", 14, 1);
+        faulty(ALL + "when", ALL.length() + 4, 1);
+        theEndOfAShorterTape();
+
+        Due.says("Terms", "2 a NUMBER that is not as told;");
+        faulty("disc 1000 0 1;", 5, 2);
+        faulty("disc -1 0 1;", 5, 2);
+        faulty("disc -0001 0 1;", 5, 2);
+        faulty(DISC + "thread 1 400 399 1;", DISC.length() + 13, 2);
+
+        Due.says("Terms", "3 more of a sort than there is room for (its word).");
+        faultyBehind(DISC + DISC + DISC + DISC, " disc", 1, 3);
+        faultyBehind(DISC + THREAD + THREAD + THREAD + THREAD, " thread", 1, 3);
+        faultyBehind(ALL + HAND + HAND + HAND, " hand", 1, 3);
+        faultyBehind(ALL + RULE + RULE + RULE + RULE + RULE + RULE, " when", 1, 3);
+    }
+
+    /** A TOKEN ends where the tape ends, whatever stood there before. */
+    private static void theEndOfAShorterTape() {
+        for (char before : new char[] {'a', '1', ' ', ';'}) {
+            HummingDisc x = new HummingDisc();
+            Due.read(x, String.valueOf(before).repeat(500));
+            Due.is("behind a tape of " + before + ": disc", Due.read(x, "disc"), -1000104);
+            Due.is("behind a tape of " + before + ": disc 1 0 7", Due.read(x, "disc 1 0 7"), -1000110);
+            Due.is("behind a tape of " + before + ": disc 1 0 ", Due.read(x, "disc 1 0 "), -1000109);
+            Due.is("behind a tape of " + before + ": -", Due.read(x, "disc -"), -1000105);
         }
-        Due.is("shorter(3, 0, 0)", x.shorter(3, 0, 0), Due.BAD);
-        Due.is("shorter(-1, 0, 0)", x.shorter(-1, 0, 0), Due.BAD);
-        Due.is("shorter(0, -1, 0)", x.shorter(0, -1, 0), Due.BAD);
-        Due.is("shorter(0, 801, 0)", x.shorter(0, 801, 0), Due.BAD);
-        Due.is("shorter(0, 0, 2)", x.shorter(0, 0, 2), Due.BAD);
-        Due.is("shorter(0, 0, -1)", x.shorter(0, 0, -1), Due.BAD);
-        Due.is("without a BOX", new HummingDisc().shorter(0, 0, 0), Due.BAD);
+    }
+
+    // ---- promises 6 to 8
+
+    private static void feed() {
+        Due.says("Promise 6", "The lowest n bytes of w");
+        HummingDisc x = new HummingDisc();
+        x.feed(-1L << 24 | ' ' << 16 | '\n' << 8 | ' ', 3);
+        Due.is("three spaces, no more", x.box(), -1000103);
+        x.feed(0xffffffffffffff00L | ' ', 1);
+        Due.is("one, no more", x.box(), -1000101);
+
+        Due.says("Promise 6", "(1 to 8),");
+        for (int n = 1; n <= 8; n++) Due.is("feed(0, " + n + ")", new HummingDisc().feed(0, n), n);
+
+        Due.says("Promise 6", "the highest of them first,");
+        x = new HummingDisc();
+        Due.is("feed(disc 9 0)", x.feed(0x6469736320392030L, 8), 8);
+        Due.is("feed( 1;)", x.feed(0x20313bL, 3), 11);
+        Due.feed(x, THREAD + HAND);
+        Due.is("box()", x.box(), 1);
+        Due.is("its WEIGHT is 9", x.wobble(0, 1), 31);
+        x.feed(' ' << 8 | '?', 2);
+        Due.is("a space, then ?", x.box(), -1000101);
+        x.feed((long) '?' << 56, 8);
+        Due.is("?, then seven of 0", x.box(), -1000100);
+
+        Due.says("Promise 6", "come behind the tape:");
+        x = new HummingDisc();
+        for (char letter : ALL.toCharArray()) x.feed(letter, 1);
+        Due.is("byte by byte", x.box(), 1);
+
+        Due.says("Promise 6", "how many it has.");
+        x = new HummingDisc();
+        for (int i = 1; i <= 62; i++) Due.is("feed(0, 8)", x.feed(0, 8), 8 * i);
+
+        Due.says("Promise 6", "BAD: n;");
+        x = new HummingDisc();
+        for (int n : new int[] {0, 9, -1, Due.LEAST, Due.GREATEST}) Due.is("feed(0, " + n + ")", x.feed(0, n), Due.BAD);
+        Due.is("none came", x.count(5), 0);
+
+        Due.says("Promise 6", "FULL: none comes.");
+        x = new HummingDisc();
+        Due.feed(x, ALL + " ".repeat(496 - ALL.length()));
+        for (int n = 5; n <= 8; n++) Due.is("feed(0, " + n + ") behind 496", x.feed(0, n), Due.FULL);
+        Due.is("none came", x.count(5), 496);
+        Due.is("four more", x.feed(' ' << 24 | ' ' << 16 | ' ' << 8 | ' ', 4), 500);
+        Due.is("one more", x.feed(0, 1), Due.FULL);
+        Due.is("what was there is read", x.box(), 1);
+    }
+
+    private static void box() {
+        Due.says("Promise 7", "The tape, empty then, is read:");
+        HummingDisc x = new HummingDisc();
+        Due.read(x, ALL);
+        Due.is("bytes on the tape", x.count(5), 0);
+        Due.is("read anew", x.box(), -1000100);
+        Due.read(x, "disc 1 0 1;;;");
+        Due.is("behind a FAULT it is empty, too", x.count(5), 0);
+        Due.is("read anew", Due.read(x, ALL), 1);
+
+        Due.says("Promise 7", "how many DISCS there are.");
+        for (int n = 1; n <= 4; n++) reads(DISC.repeat(n) + THREAD + THREAD + HAND + HAND + HAND, n);
+
+        Due.says("Promise 7", "-1000100 less the place of a FAULT:");
+        HummingDisc y = new HummingDisc();
+        Due.is("place 0", Due.read(y, "?"), -1000100);
+        Due.is("place 11", Due.read(y, DISC + "?"), -1000111);
+        Due.is("place 500", Due.read(y, " ".repeat(500)), -1000600);
+
+        Due.says("Promise 7", "all but the tape, and what fault() tells, stays.");
+        x = Due.of(DISC + DISC + THREAD + HAND + RULE);
+        Due.row(x, 0, 1, 5);
+        x.tune(0, 0, 9, 0, 0, 1);
+        x.begin(1, 0, 0, 5);
+        x.image(0);
+        x.go(2);
+        x.ask(1);
+        x.drop(1);
+        String ahead = Due.state(x).replaceAll(" fault .*", "");
+        String[] faulty = {"", "disc 7 0 1; disc 7 0 1; disc 7 0 1; thread 2 2 2 2;", ALL + RULE + "7", "disc 0"};
+        for (String text : faulty) {
+            Due.is("it has a FAULT", Due.read(x, text) <= -1000100 ? 1 : 0, 1);
+            Due.areAlike("what is behind a FAULT", Due.state(x).replaceAll(" fault .*", ""), ahead);
+            Due.is("status()", x.status(), 1);
+        }
+        Due.is("the IMAGE", x.restore(0), 1);
+        Due.is("its RUN", x.now(2), 0);
+        Due.is("ITEMS", Due.item(x, 0, 1, 0), 5);
+    }
+
+    private static void fault() {
+        Due.says("Promise 8", "The number of the latest FAULT;");
+        HummingDisc x = new HummingDisc();
+        Due.read(x, DISC.repeat(5));
+        Due.is("3", x.fault(), 3);
+        Due.read(x, "disc 0");
+        Due.is("2", x.fault(), 2);
+        Due.read(x, "disc 1");
+        Due.is("1", x.fault(), 1);
+        Due.read(x, DISC.repeat(5));
+        Due.read(x, ALL);
+        Due.is("a BOX that is read leaves it", x.fault(), 3);
+
+        Due.says("Promise 8", "0 before one.");
+        Due.is("of a new object", new HummingDisc().fault(), 0);
+        Due.is("behind a BOX that is read", Due.of(ALL).fault(), 0);
     }
 }
