@@ -51,14 +51,22 @@ public final class ImagesTest {
     }
 
     private static void imageRefusals() {
+        imageBad();
+        imageNoBox();
+    }
+
+    private static void imageBad() {
         Due.says("Promise 24", "BAD;");
         HummingDisc x = Due.of(BOX);
         for (int k : NO_IMAGES) {
             Due.is("image(" + k + ")", x.image(k), Due.BAD);
             Due.is("image(" + k + ") without a BOX", new HummingDisc().image(k), Due.BAD);
         }
+    }
+
+    private static void imageNoBox() {
         Due.says("Promise 24", "STATE: no BOX.");
-        x = new HummingDisc();
+        HummingDisc x = new HummingDisc();
         Due.is("image(0)", x.image(0), Due.STATE);
         Due.is("image(1)", x.image(1), Due.STATE);
         Due.read(x, "disc");
@@ -108,7 +116,7 @@ public final class ImagesTest {
         y.begin(0, 0, 0, 20);
         Due.pulls(y, 3);
         y.image(0);
-        y.begin(0, 0, 0, 20);
+        y.begin(0, 0, 0, 17);
         y.restore(0);
         y.go(1);
         Due.is("the HAND feels the give of the TICK ahead of the IMAGE", y.now(5), 9);
@@ -154,6 +162,11 @@ public final class ImagesTest {
     }
 
     private static void restoreRefusals() {
+        restoreBad();
+        restoreNoneKept();
+    }
+
+    private static void restoreBad() {
         Due.says("Promise 25", "BAD;");
         HummingDisc x = Due.of(BOX);
         x.image(0);
@@ -161,7 +174,12 @@ public final class ImagesTest {
             Due.is("restore(" + k + ")", x.restore(k), Due.BAD);
             Due.is("restore(" + k + ") without an IMAGE", new HummingDisc().restore(k), Due.BAD);
         }
+    }
+
+    private static void restoreNoneKept() {
         Due.says("Promise 25", "STATE: none was kept.");
+        HummingDisc x = Due.of(BOX);
+        x.image(0);
         Due.is("restore(1)", x.restore(1), Due.STATE);
         Due.is("restore(0)", x.restore(0), 1);
         Due.is("restore(0) of a new object", new HummingDisc().restore(0), Due.STATE);

@@ -5,10 +5,12 @@ import java.lang.reflect.Method;
 import java.lang.reflect.Modifier;
 import java.nio.file.Files;
 import java.nio.file.Path;
+import java.util.Arrays;
 import java.util.HashSet;
 import java.util.Set;
 import java.util.regex.Matcher;
 import java.util.regex.Pattern;
+import java.util.stream.Collectors;
 
 /** The rules of ../shared/LANGUAGE.md that can be seen in the class and in its text. */
 public final class LanguageTest {
@@ -35,7 +37,7 @@ public final class LanguageTest {
     }
 
     /** Rules 1 and 5: nothing but the document's face is seen from outside, and all static is final. */
-    private static void face() {
+    private static void face() throws IOException {
         Class<?> c = HummingDisc.class;
         Due.is("public and final", c.getModifiers(), Modifier.PUBLIC | Modifier.FINAL);
         int calls = 0, constants = 0;
@@ -50,6 +52,7 @@ public final class LanguageTest {
         }
         for (Constructor<?> made : c.getDeclaredConstructors()) Due.is("made by", made.getParameterCount(), 0);
         Due.is("calls", calls, 30);
+        toldFace(c);
         Due.is("constants", constants, 4);
         Due.is("NONE", HummingDisc.NONE, -1000000);
         Due.is("BAD", HummingDisc.BAD, -1000001);
@@ -65,6 +68,27 @@ public final class LanguageTest {
             Due.is(inside + " has some twenty fields at most", fields <= 20 ? 1 : 0, 1);
         }
         Due.is("some twelve classes at most", c.getDeclaredClasses().length + 1 <= 12 ? 1 : 0, 1);
+    }
+
+    /** The calls are those of the document's interface, each with what it is given there. */
+    private static void toldFace(Class<?> c) throws IOException {
+        Path document = Path.of("../shared/DOC.md");
+        if (!Files.isReadable(document)) return;
+        Matcher m = Pattern.compile("public (?:static )?int (\\w+)\\(([^)]*)\\);").matcher(Files.readString(document));
+        int told = 0;
+        while (m.find()) {
+            told++;
+            String given = m.group(2).replaceAll(" \\w+(?=,|$)", "");
+            long alike = Arrays.stream(c.getDeclaredMethods()).filter(x -> Modifier.isPublic(x.getModifiers()))
+                .filter(x -> x.getReturnType() == int.class && x.getName().equals(m.group(1)))
+                .filter(x -> given(x).equals(given)).count();
+            Due.is("calls such as " + m.group(), alike, 1);
+        }
+        Due.is("calls told", told, 30);
+    }
+
+    private static String given(Method call) {
+        return Arrays.stream(call.getParameterTypes()).map(Class::getName).collect(Collectors.joining(", "));
     }
 
     /** Rule 1: no method inside bears the name of a public one; rule 11: seven parameters at most. */

@@ -3,7 +3,8 @@ import java.util.function.ToIntFunction;
 /** What stands ahead of the promises (numbers, refusals), promise 31: status. Each test is for one sentence. */
 public final class RefusalsTest {
     // On these threads SHORT of w is w less 1, so that a disc of WEIGHT 10 gets F more pace a TICK.
-    private static final String BOX = "disc 10 0 1; disc 30 0 3; thread 1 1 20 999; thread 1 1 20 5; hand; when tick above 0 pull 3;";
+    private static final String BOX = "disc 10 0 1; disc 30 0 3; thread 1 1 20 999; thread 1 1 20 5;"
+        + "hand; when tick above 0 pull 3;";
 
     public static void main(String[] args) {
         manyCalls();
@@ -26,6 +27,11 @@ public final class RefusalsTest {
     }
 
     private static void numbers() {
+        turnsAndPacesBelow0();
+        cutTowards0();
+    }
+
+    private static void turnsAndPacesBelow0() {
         Due.says("Terms", "Numbers go from 0 on, but turns, paces.");
         HummingDisc x = Due.of(BOX);
         Due.is("turns below 0", x.begin(0, 0, 0, -20), 1);
@@ -36,8 +42,11 @@ public final class RefusalsTest {
         Due.are("turns above 0, a pace below", Due.turnsAndPace(x, 0), 17, -3);
         Due.is("a DISC below 0", x.begin(-1, 0, 0, 1), Due.BAD);
         Due.is("a number told below 0", x.shorter(0, -1, 0), Due.BAD);
+    }
 
+    private static void cutTowards0() {
         Due.says("Terms", "All that is divided is cut towards 0.");
+        HummingDisc x = Due.of(BOX);
         x.begin(1, 0, 0, 20);
         Due.pulls(x, 5);
         Due.is("50 by 30, a way of -1", x.now(1), -1);
@@ -98,11 +107,20 @@ public final class RefusalsTest {
     }
 
     private static void stateAndFull() {
+        state();
+        full();
+    }
+
+    private static void state() {
         Due.says("Terms", "STATE (as told),");
         HummingDisc x = new HummingDisc();
         Due.is("no RUN", x.go(1), -1000002);
         Due.is("no BOX", x.image(0), -1000002);
+    }
+
+    private static void full() {
         Due.says("Terms", "FULL (as told),");
+        HummingDisc x = new HummingDisc();
         Due.feed(x, " ".repeat(499));
         Due.is("two bytes more than 499", x.feed(0, 2), -1000003);
     }
@@ -115,7 +133,7 @@ public final class RefusalsTest {
         Due.is("pulls: a missing ROW ahead of its place", x.pulls(0, -1, 1), Due.NULL);
         Due.is("sound: a missing ROW ahead of its place", x.sound(0, 0, 39, 2, 0), Due.NULL);
         Due.is("tune: a missing ROW ahead of its place", x.tune(0, 0, 1, 0, 39, 2), Due.NULL);
-        x.row(0, 0, 1);
+        x.row(0, 1, 1);
         Due.is("copy: a missing ROW ahead of two LANES, and of a place", x.copy(0, 5, 1, 5, 5), Due.NULL);
         x.row(1, 2, 1);
         Due.is("copy: two LANES ahead of a place", x.copy(0, 5, 1, 5, 5), Due.STORE);

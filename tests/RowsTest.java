@@ -77,16 +77,41 @@ public final class RowsTest {
     }
 
     private static void findings() {
+        findingNull();
+        findingPlace();
+        findingSize();
+        findingStore();
+    }
+
+    private static void findingNull() {
+        Due.says("Terms", "-1000010 less 1 NULL (a ROW that is missing),");
         HummingDisc x = new HummingDisc();
         x.row(0, 0, 1);
         x.row(1, 1, 1);
-        Due.says("Terms", "-1000010 less 1 NULL (a ROW that is missing),");
         Due.is("set(2, 0, 1)", x.set(2, 0, 1), -1000011);
+    }
+
+    private static void findingPlace() {
         Due.says("Terms", "2 PLACE (no such place of a ROW),");
+        HummingDisc x = new HummingDisc();
+        x.row(0, 0, 1);
+        x.row(1, 1, 1);
         Due.is("set(0, 1, 1)", x.set(0, 1, 1), -1000012);
+    }
+
+    private static void findingSize() {
         Due.says("Terms", "4 SIZE (fewer than none),");
+        HummingDisc x = new HummingDisc();
+        x.row(0, 0, 1);
+        x.row(1, 1, 1);
         Due.is("row(0, 0, -1)", x.row(0, 0, -1), -1000014);
+    }
+
+    private static void findingStore() {
         Due.says("Terms", "5 STORE (ROWS of two LANES).");
+        HummingDisc x = new HummingDisc();
+        x.row(0, 0, 1);
+        x.row(1, 1, 1);
         Due.is("copy(0, 0, 1, 0, 1)", x.copy(0, 0, 1, 0, 1), -1000015);
     }
 
@@ -223,7 +248,8 @@ public final class RowsTest {
         Due.says("Promise 3", "its lowest bits, as many as the LANE has (read with their sign):");
         HummingDisc x = new HummingDisc();
         for (int lane = 0; lane < 3; lane++) x.row(lane, lane, 1);
-        int[][] bytes = {{127, 127}, {128, -128}, {255, -1}, {256, 0}, {-128, -128}, {-129, 127}, {Due.GREATEST, -1}, {Due.LEAST, 0}};
+        int[][] bytes = {{127, 127}, {128, -128}, {255, -1}, {256, 0}, {-128, -128}, {-129, 127},
+            {Due.GREATEST, -1}, {Due.LEAST, 0}};
         for (int[] d : bytes) Due.is("a byte of " + d[0], x.set(0, 0, d[0]), d[1]);
         int[][] shorts = {{32767, 32767}, {32768, -32768}, {65535, -1}, {65536, 0}, {-32768, -32768}, {-32769, 32767},
             {Due.GREATEST, -1}, {Due.LEAST, 0}};
@@ -242,7 +268,9 @@ public final class RowsTest {
     private static void setBad() {
         Due.says("Promise 3", "BAD: ROW;");
         HummingDisc x = new HummingDisc();
-        for (int row : new int[] {-1, 8, Due.LEAST, Due.GREATEST}) Due.is("set(" + row + ")", x.set(row, 0, 1), Due.BAD);
+        for (int row : new int[] {-1, 8, Due.LEAST, Due.GREATEST}) {
+            Due.is("set(" + row + ")", x.set(row, 0, 1), Due.BAD);
+        }
     }
 
     private static void setNull() {
@@ -259,7 +287,9 @@ public final class RowsTest {
         Due.says("Promise 3", "PLACE.");
         HummingDisc x = new HummingDisc();
         x.row(0, 2, 3);
-        for (int i : new int[] {-1, 3, Due.LEAST, Due.GREATEST}) Due.is("set(0, " + i + ", 1)", x.set(0, i, 1), Due.PLACE);
+        for (int i : new int[] {-1, 3, Due.LEAST, Due.GREATEST}) {
+            Due.is("set(0, " + i + ", 1)", x.set(0, i, 1), Due.PLACE);
+        }
         Due.is("the last", x.set(0, 2, 1), 1);
         x.row(0, 2, 0);
         Due.is("none of none", x.set(0, 0, 1), Due.PLACE);
@@ -345,11 +375,17 @@ public final class RowsTest {
 
     private static void copyNull() {
         Due.says("Promise 4", "NULL;");
-        HummingDisc x = new HummingDisc();
-        x.row(0, 0, 1);
-        Due.is("a is missing", x.copy(1, 0, 0, 0, 1), Due.NULL);
-        Due.is("b is missing", x.copy(0, 0, 1, 0, 1), Due.NULL);
-        Due.is("both are", x.copy(1, 0, 2, 0, 0), Due.NULL);
+        for (int lane = 0; lane < 3; lane++) {
+            HummingDisc x = new HummingDisc();
+            x.row(0, lane, 1);
+            Due.is("a is missing", x.copy(1, 0, 0, 0, 1), Due.NULL);
+            Due.is("b is missing", x.copy(0, 0, 1, 0, 1), Due.NULL);
+            Due.is("both are", x.copy(1, 0, 2, 0, 0), Due.NULL);
+            x.row(1, 1, 1);
+            x.drop(1);
+            Due.is("a was dropped", x.copy(1, 0, 0, 0, 1), Due.NULL);
+            Due.is("b was dropped", x.copy(0, 0, 1, 0, 1), Due.NULL);
+        }
     }
 
     private static void copyStore() {

@@ -38,8 +38,8 @@ public final class SentencesTest {
         Map<String, String> all = new LinkedHashMap<>();
         for (String part : document.split("(?m)^## ")) {
             String name = part.lines().findFirst().orElse("").replaceAll(":.*", "").trim();
-            String text = part.substring(part.indexOf('\n') + 1).replaceAll("(?m)^```.*$", "").replaceAll("(?m)^======== \\d ", "");
-            text = text.replaceAll("(?m)^`[^`]*`: ", "");
+            String text = part.substring(part.indexOf('\n') + 1);
+            text = text.replaceAll("(?m)^(```.*$|======== \\d |`[^`]*`: )", "");
             for (String pattern : NOT_TO_BE_TESTED) text = text.replaceAll(pattern, "");
             all.put(name, text.replaceAll("\\s+", " ").trim());
         }
@@ -50,8 +50,11 @@ public final class SentencesTest {
         List<String[]> all = new ArrayList<>();
         try (Stream<Path> files = Files.list(TESTS)) {
             for (Path file : files.filter(f -> f.toString().endsWith("Test.java")).sorted().toList()) {
-                Matcher m = QUOTE.matcher(Files.readString(file));
-                while (m.find()) all.add(new String[] {m.group(1), m.group(2).replaceAll("\"\\s*\\+\\s*\"", "").replaceAll("\"", "").trim()});
+                String text = Files.readString(file);
+                Matcher m = QUOTE.matcher(text);
+                int ahead = all.size();
+                while (m.find()) all.add(new String[] {m.group(1), m.group(2).replaceAll("\"\\s*\\+\\s*\"|\"", "").trim()});
+                Due.is("quotes read in " + file, all.size() - ahead, text.split("Due\\.says\\(", -1).length - 1);
             }
         }
         return all;
@@ -70,8 +73,8 @@ public final class SentencesTest {
         String text = section.getValue();
         for (int at = quoted.nextClearBit(0); at < text.length();) {
             int end = quoted.nextSetBit(at) < 0 ? text.length() : quoted.nextSetBit(at);
-            String left = text.substring(at, end);
-            Due.is(section.getKey() + " has words without a test: '" + left.trim() + "'", left.matches("[^A-Za-z0-9]*") ? 0 : 1, 0);
+            String left = text.substring(at, end).trim();
+            Due.is(section.getKey() + ", without a test: '" + left + "'", left.matches("[^A-Za-z0-9]*") ? 0 : 1, 0);
             at = quoted.nextClearBit(end);
         }
     }
