@@ -217,6 +217,8 @@ public final class ForetoldTest {
         Due.is("pulled anew at -10, -8, -4: no more than before", x.from(0, 2, 10, 2, 100), 4);
         // By 2 once it comes to -20, MOST; from there it is pulled at -20, -18, -14, -8, with 8 in the last.
         Due.is("from 0 either way", x.from(0, 3, 10, 2, 100), 8);
+        // From 8 it is pulled at 8, 6, 2, with 6 in the last; anew at -10, -8, -4, with 6 in the last, too.
+        Due.is("pulled anew, at 4, which it is not at first", x.from(0, 2, 8, 2, 100), 4);
     }
 
     private static void wUpToT0() {
@@ -420,6 +422,10 @@ public final class ForetoldTest {
         Due.is("three times, not two", x.lamp(0, 2, 10, 2, 12), Due.NONE);
         Due.is("three times, just", x.lamp(0, 2, 10, 2, 13), 0);
         Due.is("three times and more", x.lamp(0, 2, 10, 2, 300), 1);
+        // With 14: 4, -10, where it stands, 19, 31 (MOST), where it stands; from there 95 to -31: through 0, and SNAPPED.
+        HummingDisc y = Due.of("disc 21 0 1; thread 70 14 31 35; hand;");
+        Due.is("the third time in the TICK that SNAPS", y.lamp(0, 0, 11, 46, 6), 14);
+        Due.is("ahead of that TICK but two times", y.lamp(0, 0, 11, 46, 5), Due.NONE);
     }
 
     private static void lampWithinTicks() {

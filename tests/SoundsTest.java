@@ -51,6 +51,8 @@ public final class SoundsTest {
         Due.is("twice", heard(0, 0, 3, 2, 3, 2, 3), 2);
         Due.is("thrice", heard(0, 0, 0, 5, 0, 5, 0, 5, 0, 5), 3);
         Due.is("of two", heard(0, 0, 1, 2), 0);
+        Due.is("by v, not by tone: 5, 3, 3", heard(1, 0, 50, 30, 39), 0);
+        Due.is("by v: 5, 3, 3, 4, 4", heard(1, 0, 50, 30, 39, 40, 49), 1);
     }
 
     private static void alikeOnes() {

@@ -357,6 +357,7 @@ public final class HummingDisc {
         }
     }
 
+    /** WEIGHT and TEETH divide: none is below 1, as only a text without a FAULT makes a DISC. */
     private static final class Disc {
         final int weight;
         final int air;
